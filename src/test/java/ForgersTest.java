@@ -122,6 +122,11 @@ public final class ForgersTest {
     MarkOffice z = of(1, 3, 7, 15, 31, 63, 127, 255);
     Due.due("chain(0, 7, 1)", z.chain(0, 7, 1), 7);
     Due.due("chain(7, 0, 1)", z.chain(7, 0, 1), -1);
+    MarkOffice down = of(255, 127, 63, 31, 15, 7, 3, 1);
+    Due.due("chain(7, 0, 1)", down.chain(7, 0, 1), 7);
+    Due.due("chain(7, 0, 7)", down.chain(7, 0, 7), 1);
+    Due.due("clash(0, false) of eight", down.clash(0, false), -1);
+    Due.due("clash(1, true) of eight", down.clash(1, true), 1);
   }
 
   private static void free() {
@@ -179,6 +184,8 @@ public final class ForgersTest {
       made(x, ab[0], ab[1], -1, -1);
       Due.due("chain of others", x.chain(ab[0], ab[1], 20), -1);
     }
+    Due.due("chain(32, 0, 20)", x.chain(32, 0, 20), -1);
+    Due.due("chain(0, 32, 20)", x.chain(0, 32, 20), -1);
     Due.due("chain(0, 0, -1)", x.chain(0, 0, -1), -1);
     Due.due("chain(0, 0, 21)", x.chain(0, 0, 21), -1);
     Due.due("chain(0, 1, 20)", x.chain(0, 1, 20), 1);

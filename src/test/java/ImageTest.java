@@ -13,7 +13,7 @@ public final class ImageTest {
     MarkOffice x = new MarkOffice();
     x.mark(7);
     x.mark(48);
-    Due.told(x, "fee 9;wears which;");
+    Due.told(x, "fee 9;wears which+number*5;");
     Due.told(x, "fee 1;");
     x.by(0);
     x.add(0, 9);
@@ -52,8 +52,8 @@ public final class ImageTest {
     x.witness(-1, true);
     x.witness(6, true);
     x.said(-1, 0, 0);
-    x.said(1, 1, 9);
-    x.said(1, 1, 9);
+    x.said(1, 2, 9);
+    x.said(1, 2, 9);
   }
 
   private static void all() {

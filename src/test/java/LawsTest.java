@@ -86,6 +86,10 @@ public final class LawsTest {
     // and is before or, from wherever it comes.
     choice("1=1 or 1=1 and 1=2", true);
     choice("1=2 and 1=1 or 1=1", true);
+    choice("1=2 and 1=1", false);
+    choice("1=1 and 1=2", false);
+    choice("1=1 or 1=2", true);
+    choice("1=1 or 1=2 and 1=1", true);
     choice("1=2 and 1=2 or 1=2", false);
     choice("1=1 and 1=1 and 1=2", false);
     choice("1=2 or 1=2 or 1=1", true);
@@ -244,7 +248,9 @@ public final class LawsTest {
     Due.due("richest() without marks", x.richest(), -1);
     x.mark(0);
     Due.due("richest() of none", x.richest(), -1);
-    x.mark(3);
+    x.mark(1);
+    Due.due("richest() of 1", x.richest(), 1);
+    x.add(1, 1);
     x.mark(5);
     Due.due("richest(), the lowest of like ones", x.richest(), 1);
     x.add(2, 9);

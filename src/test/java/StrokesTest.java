@@ -43,6 +43,8 @@ public final class StrokesTest {
     Due.due("drawn(8, 9)", x.drawn(8, 9), -1);
     Due.due("drawn(-1, 0)", x.drawn(-1, 0), -1);
     Due.due("drawn(32, 33)", x.drawn(32, 33), -1);
+    Due.due("drawn(32, 1)", x.drawn(32, 1), -1);
+    Due.due("drawn(1, 32)", x.drawn(1, 32), -1);
   }
 
   private static void turned() {

@@ -5,6 +5,9 @@ public final class TextsTest {
     faultOfNone();
     atMostFour();
     faultsEmptyTheTape();
+    nothingIsLeftOfAFault();
+    bytesBehindTheEnd();
+    wholeTapes();
     goodTexts();
     cannotStand();
     wrongNumbers();
@@ -82,6 +85,58 @@ public final class TextsTest {
     Due.due("fault(0)", x.fault(0), 0);
   }
 
+  private static void nothingIsLeftOfAFault() {
+    MarkOffice x = new MarkOffice();
+    x.mark(7);
+    Due.told(x, "wears 9;fee 50;year 1;add 9 to 0;add 10 to 0;x");
+    Due.due("a text behind it", Due.told(x, "year 2;"), 0);
+    x.by(0);
+    Due.due("no wears of the other", x.wears(0, 0), 3);
+    Due.due("no fee of the other", x.of(0, 7), 3);
+    Due.due("played(0)", x.played(0), -1);
+    Due.due("no clause of the other", x.is(0), 2);
+    Due.due("no stroke of the other", x.of(0, 0) & 3 << 9, 0);
+    Due.told(x, "wears 1+1+1+1+1+1+1+1;fee 7+x;");
+    Due.due("a text behind it", Due.told(x, "fee 20;wears 6;"), 1);
+    x.by(1);
+    Due.due("its wears", x.wears(0, 0), 6);
+    Due.due("its fee", x.of(0, 7), 20);
+    for (int i = 0; i < 4; i++) {
+      Due.due("a long one", Due.told(x, "fee 1" + "+1".repeat(140) + ";x"), -1);
+    }
+    Due.due("a text behind them", Due.told(x, "fee 1" + "+1".repeat(30) + ";"), 2);
+    x.by(2);
+    Due.due("its fee", x.of(0, 7), 31);
+  }
+
+  private static void wholeTapes() {
+    for (String sign : new String[] {"(", ";", "1", "a", " ", "!"}) {
+      fault(sign.repeat(300), sign.equals(" ") ? 0 : 1, sign.equals(" ") ? -1 : 0);
+    }
+    good("fee 1" + "+1".repeat(147) + ";");
+    fault("fee 1" + "+1".repeat(147) + "+", 1, 300);
+    fault("fee 1" + " ".repeat(295), 1, 300);
+    good("draw frame" + " with bar 1".repeat(26) + ";   ");
+  }
+
+  /** What end cuts off is no part of the last token. */
+  private static void bytesBehindTheEnd() {
+    cut("fees 1;", 3, 1, 3);
+    cut("year 61;", 6, 1, 6);
+    cut("fee if 1<=2", 9, 1, 9);
+    cut("fee 1;fee", 6, 0, -1);
+    cut("fee 1; ;", 7, 0, -1);
+  }
+
+  private static void cut(String text, int length, int fault, int place) {
+    MarkOffice x = new MarkOffice();
+    Due.put(x, text);
+    x.end(length);
+    Due.due("text() of a part of " + text, x.text(), fault == 0 ? 0 : -1);
+    Due.due("fault(0) of a part of " + text, x.fault(0), fault);
+    Due.due("fault(1) of a part of " + text, x.fault(1), place);
+  }
+
   private static void good(String text) {
     fault(text, 0, -1);
   }
@@ -119,7 +174,12 @@ public final class TextsTest {
     fault(";", 1, 0);
     fault("fee 1;;", 1, 6);
     fault("Fee 1;", 1, 0);
-    fault("feel 1;", 1, 0);
+    for (String letter : new String[] {"a", "z", "A", "Z"}) {
+      fault("fee" + letter + " 1;", 1, 0);
+    }
+    for (String sign : new String[] {"@", "[", "`", "{", "_", ":", ",", "\0", "\r", "\u00aa"}) {
+      fault("fee" + sign + "1;", 1, 3);
+    }
     fault("fee1a;", 1, 4);
     fault("fee 1!;", 1, 5);
     fault("fee\t1;", 1, 3);
