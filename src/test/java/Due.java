@@ -2,17 +2,31 @@
 final class Due {
   private static int checks = 0;
   private static int wrong = 0;
+  private static String under = "";
 
   private Due() {}
 
   static void due(String call, long got, long want) {
     checks++;
     if (got != want) {
-      wrong++;
-      if (wrong <= 40) {
-        System.out.println(call + " answered " + got + ", due is " + want);
-      }
+      fail(call + " answered " + got + ", due is " + want);
     }
+  }
+
+  /** What is told ahead of each answer that is not as due from now on. */
+  static void under(String what) {
+    under = what + ": ";
+  }
+
+  static void fail(String what) {
+    wrong++;
+    if (wrong <= 40) {
+      System.out.println(under + what);
+    }
+  }
+
+  static int looked() {
+    return checks;
   }
 
   static void due(String call, boolean got, boolean want) {

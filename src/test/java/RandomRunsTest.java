@@ -2,14 +2,16 @@ import java.util.Random;
 
 /** Runs of calls by chance: each answer is held against PlainOffice's (a fixed seed, so always the same). */
 public final class RandomRunsTest {
-  private static final int RUNS = 300;
-  private static final int CALLS = 300;
+  private static final int RUNS = 3000;
+  // An object is asked 512 times at most, and a look at all of it takes some 60.
+  private static final int MOST_ASKED = 512 - 2 * 65;
 
   private final Random random;
   private final RandomTexts texts;
   private MarkOffice x = new MarkOffice();
   private PlainOffice plain = new PlainOffice();
   private String run = "";
+  private int asked = 0;
 
   private RandomRunsTest(long seed) {
     random = new Random(seed);
@@ -30,20 +32,23 @@ public final class RandomRunsTest {
   private void oneRun() {
     x = new MarkOffice();
     plain = new PlainOffice();
+    asked = 0;
     for (int i = 0; i < 3 + random.nextInt(6); i++) {
       mark(strokes());
     }
-    for (int i = 0; i < CALLS && !Due.anyWrong(); i++) {
+    while (asked < MOST_ASKED && !Due.anyWrong()) {
       oneCall();
     }
+    wholeState();
   }
 
   private void same(String call, long got, long want) {
+    asked++;
     Due.due(run + ", " + call, got, want);
   }
 
   private void same(String call, boolean got, boolean want) {
-    Due.due(run + ", " + call, got, want);
+    same(call, got ? 1 : 0, want ? 1 : 0);
   }
 
   /** Mostly 0 .. most, seldom what is just or far beside it. */
@@ -127,9 +132,6 @@ public final class RandomRunsTest {
       default:
         images();
     }
-    if (random.nextInt(10) == 0) {
-      wholeState();
-    }
   }
 
   private void tellText() {
@@ -149,9 +151,8 @@ public final class RandomRunsTest {
     int length = random.nextInt(30) == 0 ? pick(300) : text.length();
     same("end(" + length + ")", x.end(length), plain.end(length));
     same("text() of " + text, x.text(), plain.text());
-    for (int what = -1; what <= 2; what++) {
-      same("fault(" + what + ") of " + text, x.fault(what), plain.fault(what));
-    }
+    int what = random.nextInt(8) == 0 ? pick(2) : random.nextInt(2);
+    same("fault(" + what + ") of " + text, x.fault(what), plain.fault(what));
     same("about(6)", x.about(6), plain.about(6));
   }
 
@@ -220,13 +221,13 @@ public final class RandomRunsTest {
     int mark = mark();
     int stroke = stroke();
     same("wears(" + mark + ", " + stroke + ")", x.wears(mark, stroke), plain.wears(mark, stroke));
-    for (int what = -1; what <= 8; what++) {
-      same("of(" + mark + ", " + what + ")", x.of(mark, what), plain.of(mark, what));
-    }
     int i = pick(25);
-    for (int what = -1; what <= 4; what++) {
-      same("book(" + i + ", " + what + ")", x.book(i, what), plain.book(i, what));
-      same("ledger(" + what + ")", x.ledger(what), plain.ledger(what));
+    for (int times = 0; times < 2; times++) {
+      int what = pick(7);
+      same("of(" + mark + ", " + what + ")", x.of(mark, what), plain.of(mark, what));
+      int tells = pick(3);
+      same("book(" + i + ", " + tells + ")", x.book(i, tells), plain.book(i, tells));
+      same("ledger(" + tells + ")", x.ledger(tells), plain.ledger(tells));
     }
     same("richest()", x.richest(), plain.richest());
     same("worn()", x.worn(), plain.worn());
@@ -242,7 +243,7 @@ public final class RandomRunsTest {
     same("least(" + set + ")", x.least(set), plain.least(set));
     same("pens(" + set + ")", x.pens(set), plain.pens(set, true));
     same("rim(" + set + ")", x.rim(set), plain.rim(set, true));
-    for (int i = -2; i <= 21; i++) {
+    for (int i : new int[] {-1, 0, pick(4), pick(19)}) {
       same("trail(" + set + ", " + i + ")", x.trail(set, i), plain.trail(set, i));
     }
     int a = pick(8);
@@ -300,8 +301,14 @@ public final class RandomRunsTest {
       case 2:
         same("image()", x.image(), plain.image());
         break;
-      default:
+      case 3:
         wholeState();
+        break;
+      default: {
+        int what = pick(6);
+        same("about(" + what + ")", x.about(what), plain.about(what));
+        same("is(" + what % 4 + ")", x.is(what % 4), plain.is(what % 4));
+      }
     }
   }
 
@@ -315,9 +322,8 @@ public final class RandomRunsTest {
       same("of(" + mark + ", 1)", x.of(mark, 1), plain.of(mark, 1));
     }
     for (int i = -1; i < 26; i++) {
-      for (int what = 0; what < 4; what++) {
-        same("book(" + i + ", " + what + ")", x.book(i, what), plain.book(i, what));
-      }
+      int what = random.nextInt(4);
+      same("book(" + i + ", " + what + ")", x.book(i, what), plain.book(i, what));
     }
   }
 }
