@@ -4,61 +4,15 @@ import java.lang.reflect.Method;
 import java.lang.reflect.Modifier;
 import java.nio.file.Files;
 import java.nio.file.Path;
+import java.util.ArrayList;
+import java.util.List;
 import java.util.Set;
 import java.util.TreeSet;
 
 /** The class's face, and those rules of LANGUAGE.md that can be looked up in its source. */
 public final class FaceTest {
-  private static final String FACE = """
-      int mark(int)
-      int feed(int, int, int, int, int)
-      int end(int)
-      int text()
-      int fault(int)
-      boolean by(int)
-      boolean add(int, int)
-      boolean rub(int, int)
-      int renew(int)
-      int year(int)
-      int played(int)
-      int ages(int, int)
-      int undo()
-      int of(int, int)
-      int wears(int, int)
-      int is(int)
-      int book(int, int)
-      int foretold(int, int)
-      int drawn(int, int)
-      int turned(int, int)
-      int joined(int, int)
-      int own(int)
-      int least(int)
-      int pens(int)
-      int trail(int, int)
-      int rim(int)
-      int alike(int, int)
-      int way(int, int)
-      int made(int, int, boolean)
-      int clash(int, boolean)
-      int chain(int, int, int)
-      int free(int, int)
-      long kinds(int)
-      int witness(int, boolean)
-      int which()
-      int ways(int)
-      int ask()
-      int game(int, int)
-      int play(int, int)
-      int apart(int, int)
-      int said(int, int, int)
-      int whose()
-      int richest()
-      int worn()
-      int ledger(int)
-      int image()
-      int back()
-      int about(int)
-      """;
+  private static final List<String> FACE = new ArrayList<>();
+  private static final List<String> CONSTANTS = new ArrayList<>();
 
   private static final String[] BANNED = {
     "throw", "throws", "try", "catch", "finally", "assert", "synchronized", "import", "package",
@@ -67,15 +21,43 @@ public final class FaceTest {
   };
 
   public static void main(String[] args) throws Exception {
+    readFace(Files.readString(Path.of("../shared/DOC.md")));
     face();
+    constants();
     hiddenMembers();
     source(Files.readString(Path.of(System.getProperty("source", "src/main/java/MarkOffice.java"))));
     Due.close("FaceTest");
   }
 
+  /** The document's face, as a method tells itself: its parameters' types without their names. */
+  private static void readFace(String document) {
+    String face = document.substring(document.indexOf("```java\n"));
+    for (String line : face.substring(0, face.indexOf("\n}")).split("\n")) {
+      String member = line.trim().replaceFirst("^public ", "");
+      if (member.startsWith("static final ")) {
+        CONSTANTS.add(member.substring("static final ".length(), member.length() - 1));
+      } else if (member.endsWith(");") && !member.startsWith("MarkOffice(")) {
+        FACE.add(member.substring(0, member.length() - 1).replaceAll("(int|boolean) \\w+(?=[,)])", "$1"));
+      }
+    }
+    Due.due("methods of the document's face", FACE.size(), 48);
+  }
+
+  private static void constants() throws Exception {
+    Set<String> found = new TreeSet<>();
+    for (Field field : MarkOffice.class.getDeclaredFields()) {
+      if (Modifier.isPublic(field.getModifiers())) {
+        boolean constant = Modifier.isStatic(field.getModifiers()) && Modifier.isFinal(field.getModifiers());
+        Due.due(field + " is a constant", constant, true);
+        found.add(field.getType() + " " + field.getName() + " = " + field.getInt(null));
+      }
+    }
+    Due.due("constants " + found, found.equals(new TreeSet<>(CONSTANTS)), true);
+  }
+
   private static void face() {
     Set<String> found = new TreeSet<>();
-    Set<String> wanted = new TreeSet<>(FACE.lines().toList());
+    Set<String> wanted = new TreeSet<>(FACE);
     for (Method method : MarkOffice.class.getDeclaredMethods()) {
       if (!Modifier.isPrivate(method.getModifiers())) {
         StringBuilder line = new StringBuilder(method.getReturnType() + " " + method.getName() + "(");
@@ -96,7 +78,7 @@ public final class FaceTest {
 
   private static void hiddenMembers() {
     Set<String> names = new TreeSet<>();
-    FACE.lines().forEach(line -> names.add(line.substring(line.indexOf(' ') + 1, line.indexOf('('))));
+    FACE.forEach(line -> names.add(line.substring(line.indexOf(' ') + 1, line.indexOf('('))));
     for (Field field : MarkOffice.class.getDeclaredFields()) {
       boolean shown = !Modifier.isPrivate(field.getModifiers());
       Due.due("field " + field.getName(), shown, field.getName().equals("NONE"));
